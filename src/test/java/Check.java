@@ -1,5 +1,7 @@
 /** Compares answers with what is due and ends a test with exit code 1 if one was wrong. */
 final class Check {
+    private static final int MOST_TOLD = 40;
+
     private static int made = 0;
     private static int wrong = 0;
 
@@ -17,18 +19,20 @@ final class Check {
     }
 
     static void same(String what, long got, long due) {
-        made++;
-        if (got != due) {
-            wrong++;
-            System.out.println(what + ": got " + got + ", due is " + due);
-        }
+        same(what, Long.toString(got), Long.toString(due));
     }
 
     static void same(String what, String got, String due) {
         made++;
         if (!got.equals(due)) {
             wrong++;
-            System.out.println(what + ": got " + got + ", due is " + due);
+            tell(what + ": got " + got + ", due is " + due);
+        }
+    }
+
+    private static void tell(String text) {
+        if (wrong <= MOST_TOLD) {
+            System.out.println(text);
         }
     }
 
