@@ -740,7 +740,7 @@ public final class ShadowWarden {
                     follow(registers.value(r), verdict);
                 }
             }
-            for (int i = 0; i < foundSize; i++) {
+            for (int i = 0; i < foundSize && i < Heap.MOST; i++) {
                 followWords(heap.address(found[i]), heap.end(found[i]), verdict);
             }
         }
@@ -755,14 +755,14 @@ public final class ShadowWarden {
 
         private void follow(int pointer, int verdict) {
             int index = heap.indexOfLiveAround(pointer);
-            if (index != Heap.NONE && takes(index, pointer, verdict)) {
+            if (index != Heap.NONE && takes(index, pointer, verdict) && foundSize < Heap.MOST) {
                 verdicts[index] = verdict;
                 found[foundSize] = index;
                 foundSize++;
             }
         }
 
-        /** A block is found once a pass, so found never grows beyond the blocks there are. */
+        /** A block that is taken gets a verdict that keeps it from being taken twice. */
         private boolean takes(int index, int pointer, int verdict) {
             switch (verdict) {
                 case HELD:
@@ -778,7 +778,7 @@ public final class ShadowWarden {
             verdicts[index] = LOST;
             found[0] = index;
             foundSize = 1;
-            for (int i = 0; i < foundSize; i++) {
+            for (int i = 0; i < foundSize && i < Heap.MOST; i++) {
                 followWords(heap.address(found[i]), heap.end(found[i]), DRAGGED);
             }
         }

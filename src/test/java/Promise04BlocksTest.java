@@ -106,11 +106,15 @@ final class Promise04BlocksTest {
 
     private static void gapsAreTakenAgain() {
         Lab lab = new Lab();
-        for (int size : new int[] {4, 12, 4, 4, 4, 4}) {
+        for (int size : new int[] {4, 12, 4, 3, 2, 1}) {
             lab.askFor(size);
         }
         for (int address : new int[] {80, 100, 112, 124}) {
             lab.giveBack(address);
+        }
+        for (int k = 3; k <= 6; k++) {
+            Check.same("address of " + k, lab.warden.block(k, 0), 64 + 12 * k);
+            Check.same("size of " + k, lab.warden.block(k, 1), 7 - k);
         }
         Check.same("the gap is too small for 16", lab.askFor(16), 148);
         Check.same("a part of the gap", lab.askFor(2), 80);

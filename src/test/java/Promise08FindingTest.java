@@ -67,7 +67,8 @@ final class Promise08FindingTest {
         calm.warden.run(5);
         Check.same("no use of these counts", calm.warden.count(3), 0);
         Lab ofB = new Lab();
-        ofB.load(1, Lab.STACK).set(2, -8).write(Lab.EQUAL, 0, 2, 1, 9).write(Lab.ASK, 3, 2, 1, 0).halt();
+        ofB.load(1, Lab.STACK).set(2, -8).write(Lab.EQUAL, 0, 2, 1, 9).write(Lab.ASK, 3, 2, 1, 0);
+        ofB.set(4, 8).ask(5, 4).write(Lab.GIVE, 0, 5, 1, 0).halt();
         ofB.go(0);
         Check.same("a's value though b is meant", ofB.finding(0), "3 at 2, -8, x1");
         Check.same("b counts only in 13 and 14", ofB.warden.count(3), 1);

@@ -14,6 +14,7 @@ final class Promise10LeaksTest {
         lostAndDragged();
         ringsAndOrder();
         theScanIsOfNow();
+        tenBlocks();
         wrongKinds();
         Check.finish();
     }
@@ -58,7 +59,9 @@ final class Promise10LeaksTest {
         verdicts("no multiple of 4", five().pokeWord(2, BLOCK_2), "33333");
         verdicts("a word of the stack", five().pokeWord(Lab.STACK, BLOCK_2), "33333");
         verdicts("a wall's word", five().pokeWord(64, BLOCK_2), "33333");
-        verdicts("a greater word", five().pokeWord(0, BLOCK_2 + 256), "33333");
+        for (int bit = 8; bit < 32; bit++) {
+            verdicts("a word with bit " + bit, five().pokeWord(0, BLOCK_2 + (1 << bit)), "33333");
+        }
         Lab lab = five();
         lab.at(0).load(1, Lab.STACK).write(Lab.STORE_BYTE, 0, 0, 1, 3).halt();
         lab.pokeWord(0, BLOCK_2);
@@ -134,6 +137,25 @@ final class Promise10LeaksTest {
         lab.giveBack(BLOCK_3);
         Check.same("resting ones are not counted", lab.leaks(), "0 0 4 0");
         Check.same("and not told", lab.verdicts(5), "33033");
+    }
+
+    /** Each leads to the one before it, so the last drags all others in the end. */
+    private static void tenBlocks() {
+        Lab lab = new Lab();
+        for (int k = 0; k < 10; k++) {
+            lab.askFor(4);
+        }
+        Check.same("all lost", lab.verdicts(10) + ", " + lab.leaks(), "3333333333, 0 0 10 0");
+        for (int k = 1; k < 10; k++) {
+            lab.pokeWord(68 + 12 * k, 68 + 12 * (k - 1));
+        }
+        Check.same("dragged by the last", lab.verdicts(10) + ", " + lab.leaks(), "4444444443, 0 0 1 9");
+        lab.pokeWord(0, 68 + 12 * 9);
+        Check.same("held by the last", lab.verdicts(10) + ", " + lab.leaks(), "1111111111, 10 0 0 0");
+        lab.pokeWord(0, 69 + 12 * 9);
+        Check.same("doubtful by the last", lab.verdicts(10) + ", " + lab.leaks(), "2222222222, 0 10 0 0");
+        lab.giveBack(68).giveBack(80).giveBack(92).giveBack(104);
+        Check.same("the first is gone", lab.leaks(), "0 6 0 0");
     }
 
     private static void wrongKinds() {
