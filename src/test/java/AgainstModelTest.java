@@ -2,16 +2,18 @@ import java.util.Random;
 import java.util.TreeMap;
 
 /**
- * Runs of calls, chosen by a fixed seed, that the class and PlainModel must answer alike; they go beyond
- * the 512 calls of the document, since looking at the whole state takes many.
+ * Runs of calls, chosen by a fixed seed, that the class and PlainModel must answer alike. One object may not be
+ * asked for its whole state, so each run looks at a part of it at last, and some go to the end without.
  */
 final class AgainstModelTest {
-    private static final int RUNS = 1500;
-    private static final int CALLS = 512;
+    private static final int RUNS = 3000;
+    private static final int LOOKS = 6;
+    private static final int MOST_CALLS_OF_A_LOOK = 264;
+    private static final int MOST_CALLS_OF_A_STEP = 6;
 
     private final Random random;
     private final int run;
-    private final ShadowWarden warden = new ShadowWarden();
+    private final Warden warden = new Warden();
     private final PlainModel model = new PlainModel();
     private static final TreeMap<String, Integer> SEEN = new TreeMap<>();
 
@@ -23,11 +25,11 @@ final class AgainstModelTest {
     public static void main(String[] args) {
         for (int run = 0; run < RUNS; run++) {
             AgainstModelTest test = new AgainstModelTest(run);
+            int look = run % LOOKS;
             test.writeCode();
-            for (int call = 0; call < CALLS; call++) {
-                test.oneCall();
-            }
-            test.compareAll();
+            test.steps(look == 0 ? Warden.MOST_CALLS : Warden.MOST_CALLS - MOST_CALLS_OF_A_LOOK);
+            test.lookAt(look);
+            test.seeWhatCame();
         }
         System.out.println("seen: " + SEEN);
         // Without these the runs would be too tame to tell anything.
@@ -115,7 +117,7 @@ final class AgainstModelTest {
         }
     }
 
-    private void oneCall() {
+    private void oneStep() {
         int chance = random.nextInt(100);
         if (chance < 14) {
             writeOne(around(31));
@@ -217,12 +219,35 @@ final class AgainstModelTest {
         }
     }
 
-    private void compareAll() {
-        for (int i = 0; i < 256 * 3; i++) {
+    private void steps(int calls) {
+        while (warden.calls() <= calls - MOST_CALLS_OF_A_STEP) {
+            oneStep();
+        }
+    }
+
+    private void lookAt(int part) {
+        if (part == 1) {
+            lookAtMemory(0, 87);
+        } else if (part == 2) {
+            lookAtMemory(88, 175);
+        } else if (part == 3) {
+            lookAtMemory(176, 255);
+        } else if (part == 4) {
+            lookAtFindingsAndBlocks();
+        } else if (part == 5) {
+            lookAtRegistersAndCounts();
+        }
+    }
+
+    private void lookAtMemory(int first, int last) {
+        for (int i = 3 * first; i < 3 * (last + 1); i++) {
             int at = i / 3;
             int what = i % 3;
             alike("at last memory(" + at + ", " + what + ")", () -> warden.memory(at, what), () -> model.memory(at, what));
         }
+    }
+
+    private void lookAtFindingsAndBlocks() {
         for (int i = 0; i < 26 * 4; i++) {
             int k = i / 4;
             int what = i % 4;
@@ -232,6 +257,9 @@ final class AgainstModelTest {
             alike("at last block(" + number + ", " + what + ")",
                     () -> warden.block(number, what), () -> model.block(number, what));
         }
+    }
+
+    private void lookAtRegistersAndCounts() {
         for (int i = 0; i < 16; i++) {
             int r = i / 2;
             int what = i % 2;
@@ -240,6 +268,9 @@ final class AgainstModelTest {
             int of = i - 2;
             alike("at last count(" + of + ")", () -> warden.count(of), () -> model.count(of));
         }
+    }
+
+    private void seeWhatCame() {
         model.findings.forEach(finding -> see("kind " + finding.kind));
         model.live.forEach(block -> see("verdict " + model.block(block.number, 3)));
     }

@@ -4,6 +4,7 @@ final class Check {
 
     private static int made = 0;
     private static int wrong = 0;
+    private static String sentence = "";
 
     /** A call whose answer or exception is looked at. */
     interface Call {
@@ -16,6 +17,15 @@ final class Check {
     }
 
     private Check() {
+    }
+
+    /** What is wrong from here on is told under this name. */
+    static void under(String name) {
+        sentence = name;
+    }
+
+    static int made() {
+        return made;
     }
 
     static void same(String what, long got, long due) {
@@ -32,15 +42,19 @@ final class Check {
 
     private static void tell(String text) {
         if (wrong <= MOST_TOLD) {
-            System.out.println(text);
+            System.out.println(sentence.isEmpty() ? text : sentence + "\n    " + text);
         }
     }
 
     static void refuses(String what, Class<? extends RuntimeException> due, Deed deed) {
-        same(what, outcome(() -> {
+        same(what, outcome(deed), "throws." + due.getSimpleName());
+    }
+
+    static String outcome(Deed deed) {
+        return outcome(() -> {
             deed.happen();
             return 0;
-        }), "throws." + due.getSimpleName());
+        });
     }
 
     static String outcome(Call call) {

@@ -22,8 +22,19 @@ final class Lab {
 
     static final int STACK = 224;
 
-    final ShadowWarden warden = new ShadowWarden();
+    /** The last word of the stack, which nothing here writes to: it stays 0 and not known. */
+    static final int BLANK = 252;
+
+    final Warden warden;
     private int next = 0;
+
+    Lab() {
+        this(new Warden());
+    }
+
+    Lab(Warden warden) {
+        this.warden = warden;
+    }
 
     Lab at(int i) {
         next = i;
@@ -67,10 +78,28 @@ final class Lab {
         return warden.run(200);
     }
 
+    /** Registers would lead to blocks, too. */
+    Lab clearRegisters() {
+        warden.start(0);
+        return this;
+    }
+
     /** Puts a word into memory from outside, all of it known. */
     Lab pokeWord(int address, int word) {
         for (int i = 0; i < 4; i++) {
             warden.poke(address + i, (word >> (8 * i)) & 255);
+        }
+        return this;
+    }
+
+    /** A word in memory of which only the bytes of these bits are known; its bits are those of register's answer. */
+    Lab plant(int address, int word, int known) {
+        at(24).load(7, BLANK).set(6, word).write(XOR, 7, 7, 6, 0).store(7, address).halt();
+        go(24);
+        for (int i = 0; i < 4; i++) {
+            if (((known >> i) & 1) == 1) {
+                warden.poke(address + i, (word >> (8 * i)) & 255);
+            }
         }
         return this;
     }

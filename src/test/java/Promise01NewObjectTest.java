@@ -1,58 +1,70 @@
-/** Promise 1: all as at first, at instruction 0, stopped. */
+import java.util.NoSuchElementException;
+
+/** Promise 1: a new object. */
 final class Promise01NewObjectTest {
     public static void main(String[] args) {
-        ShadowWarden warden = new ShadowWarden();
-        memoryIsAsAtFirst(warden);
-        registersAreAsAtFirst(warden);
-        countsAreAsAtFirst(warden);
-        codeIsAllHalt();
-        objectsAreApart();
-        Check.finish();
+        all().run();
     }
 
-    private static void memoryIsAsAtFirst(ShadowWarden warden) {
-        for (int i = 0; i < 256; i++) {
-            Check.same("value of byte " + i, warden.memory(i, 0), 0);
-            Check.same("byte " + i + " open", warden.memory(i, 1), i < 64 || i >= 224 ? 1 : 0);
-            Check.same("byte " + i + " known", warden.memory(i, 2), i < 64 ? 1 : 0);
+    static Sentences all() {
+        return new Sentences().in("Promise 1: A new object")
+                .holds("`ShadowWarden()`: All as at first,", Promise01NewObjectTest::allThatCanBeSeen)
+                .holds("All as at first,", Promise01NewObjectTest::nothingIsThereYet)
+                .holds("All as at first,", Promise01NewObjectTest::objectsAreApart)
+                .holds("at INSTRUCTION 0,", Promise01NewObjectTest::at0)
+                .holds("STOPPED.", Promise01NewObjectTest::stopped);
+    }
+
+    private static String repeated(String text, int times) {
+        return (" " + text).repeat(times);
+    }
+
+    private static void allThatCanBeSeen() {
+        StringBuilder due = new StringBuilder();
+        for (int from = 0; from < 256; from += 64) {
+            due.append("bytes from ").append(from).append(repeated("0", 64)).append('\n');
+            String open = from == 0 ? repeated("1", 64) : repeated("0", 64);
+            if (from == 192) {
+                open = repeated("0", 32) + repeated("1", 32);
+            }
+            due.append("open from ").append(from).append(open).append('\n');
+            due.append("known from ").append(from).append(repeated(from == 0 ? "1" : "0", 64)).append('\n');
         }
+        due.append("counts 0 1").append(repeated("0", 8)).append('\n');
+        due.append("registers").append(repeated("0 15", 8)).append('\n');
+        due.append("leaks 0 0 0 0\nfindings\nblocks\n");
+        Check.same("seen", View.after(warden -> { }), due.toString());
     }
 
-    private static void registersAreAsAtFirst(ShadowWarden warden) {
-        for (int r = 0; r < 8; r++) {
-            Check.same("register " + r, warden.register(r, 0), 0);
-            Check.same("register " + r + " known", warden.register(r, 1), 15);
-        }
-    }
-
-    private static void countsAreAsAtFirst(ShadowWarden warden) {
-        for (int what = 0; what < 10; what++) {
-            Check.same("count " + what, warden.count(what), what == 1 ? 1 : 0);
+    private static void nothingIsThereYet() {
+        Warden warden = new Warden();
+        for (int k = -1; k <= 1; k++) {
+            int number = k;
+            Check.refuses("finding " + k, NoSuchElementException.class, () -> warden.finding(number, 0));
+            Check.refuses("block " + k, NoSuchElementException.class, () -> warden.block(number, 3));
         }
         for (int kind = 1; kind <= 4; kind++) {
             Check.same("leaks " + kind, warden.leaks(kind), 0);
         }
-        Check.refuses("run when new", IllegalStateException.class, () -> warden.run(1));
-        Check.refuses("finding when new", java.util.NoSuchElementException.class, () -> warden.finding(0, 0));
-        Check.refuses("block when new", java.util.NoSuchElementException.class, () -> warden.block(1, 0));
-    }
-
-    private static void codeIsAllHalt() {
-        for (int i = 0; i < 32; i++) {
-            ShadowWarden warden = new ShadowWarden();
-            warden.start(i);
-            Check.same("run at " + i, warden.run(200), 1);
-            Check.same("stays at " + i, warden.count(0), i);
-            Check.same("stopped at " + i, warden.count(1), 1);
-        }
+        Check.same("blocks got", warden.count(7), 0);
+        Check.same("pieces there", warden.count(9), 0);
     }
 
     private static void objectsAreApart() {
-        ShadowWarden one = new ShadowWarden();
-        ShadowWarden other = new ShadowWarden();
-        one.poke(100, 7);
-        one.start(3);
-        Check.same("the other's byte", other.memory(100, 0), 0);
-        Check.same("the other's place", other.count(0), 0);
+        String before = View.after(warden -> { });
+        Lab one = new Lab().withBlocks(4, 8).pokeWord(0, -1);
+        one.at(0).load(1, 100).halt();
+        one.go(0);
+        Check.same("a new one after that", View.after(warden -> { }), before);
+    }
+
+    private static void at0() {
+        Check.same("at", new Warden().count(0), 0);
+    }
+
+    private static void stopped() {
+        Check.same("stopped", new Warden().count(1), 1);
+        Check.refuses("run(1)", IllegalStateException.class, () -> new Warden().run(1));
+        Check.refuses("run(200)", IllegalStateException.class, () -> new Warden().run(200));
     }
 }

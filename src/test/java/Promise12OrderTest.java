@@ -1,53 +1,66 @@
-/** Promise 12: what stays when the machine stops, and pieces that are thrown away for nothing. */
+/** Promise 12: order and limits. */
 final class Promise12OrderTest {
     public static void main(String[] args) {
-        haltStaysAndCounts();
-        faultStaysAndDoesNotCount();
-        faultDoesNothingElse();
-        sameCodeThrowsAway();
-        Check.finish();
+        all().run();
     }
 
-    private static void haltStaysAndCounts() {
+    static Sentences all() {
+        return new Sentences().in("Promise 12: Order and limits")
+                .holds("HALT: the machine stays at that INSTRUCTION (count 0),", Promise12OrderTest::haltStays)
+                .holds("which counts as done.", Promise12OrderTest::haltCounts)
+                .holds("With a FAULT it stays at its INSTRUCTION, too,", Promise12OrderTest::faultStays)
+                .holds("which does not count as done (count 2).", Promise12OrderTest::faultDoesNotCount)
+                .holds("code: the PIECES with INSTRUCTION i are thrown away also if it becomes what it was.",
+                        Promise12OrderTest::sameCodeThrowsAway);
+    }
+
+    private static void haltStays() {
+        for (int i = 0; i < 32; i++) {
+            Lab lab = new Lab();
+            lab.go(i);
+            Check.same("halt at " + i, lab.warden.count(0), i);
+        }
         Lab lab = new Lab();
         lab.set(1, 1).set(2, 2).halt();
         lab.warden.start(0);
-        Check.same("three done", lab.warden.run(3), 3);
-        Check.same("stays at halt", lab.warden.count(0), 2);
-        Check.same("stopped", lab.warden.count(1), 1);
-        Check.same("counts as done", lab.warden.count(2), 3);
-        Lab last = new Lab();
-        last.warden.start(31);
-        last.warden.run(5);
-        Check.same("halt at 31 stays", last.warden.count(0), 31);
+        lab.warden.run(3);
+        Check.same("behind others, as the last one allowed", lab.warden.count(0), 2);
     }
 
-    private static void faultStaysAndDoesNotCount() {
+    private static void haltCounts() {
         Lab lab = new Lab();
-        lab.set(1, 1).load(2, 253).halt();
-        lab.warden.start(0);
-        Check.refuses("fault", IndexOutOfBoundsException.class, () -> lab.warden.run(200));
-        Check.same("stays at it", lab.warden.count(0), 1);
-        Check.same("stopped", lab.warden.count(1), 1);
-        Check.same("does not count as done", lab.warden.count(2), 1);
-        Check.same("its piece is translated", lab.warden.count(8), 1);
-        Check.same("what was done before stays", lab.warden.register(1, 0), 1);
-        Check.refuses("then it is stopped", IllegalStateException.class, () -> lab.warden.run(1));
-        lab.warden.start(2);
-        Check.same("and can be started", lab.warden.run(1), 1);
+        lab.set(1, 1).halt();
+        lab.go(0);
+        Check.same("two", lab.warden.count(2), 2);
+        lab.go(1);
+        Check.same("three", lab.warden.count(2), 3);
     }
 
-    private static void faultDoesNothingElse() {
-        for (int op : new int[] {Lab.LOAD, Lab.LOAD_BYTE, Lab.STORE, Lab.STORE_BYTE}) {
-            Lab lab = new Lab();
-            lab.set(1, 256).set(2, 77).set(3, -1);
-            lab.write(op, 2, 1, 3, op == Lab.LOAD || op == Lab.STORE ? -2 : 0);
-            lab.warden.start(0);
-            Check.refuses("fault of " + op, IndexOutOfBoundsException.class, () -> lab.warden.run(200));
-            Check.same("d stays", lab.warden.register(2, 0), 77);
-            Check.same("memory stays", lab.warden.memory(254, 0) + lab.warden.memory(255, 0), 0);
-            Check.same("not known", lab.warden.memory(254, 2) + lab.warden.memory(255, 2), 0);
-            Check.same("no finding", lab.warden.count(3), 0);
+    private static Lab faultAt(int i, int op) {
+        Lab lab = new Lab();
+        lab.at(i).set(1, 1).write(op, 2, 0, 1, -1).set(3, 3);
+        lab.warden.start(i);
+        Check.refuses("fault", IndexOutOfBoundsException.class, () -> lab.warden.run(200));
+        return lab;
+    }
+
+    private static void faultStays() {
+        for (int op = Lab.LOAD; op <= Lab.STORE_BYTE; op++) {
+            for (int i : new int[] {0, 8, 29, 30, 31}) {
+                Lab lab = faultAt(i, op);
+                Check.same("at", lab.warden.count(0), (i + 1) % 32);
+                Check.same("stopped", lab.warden.count(1), 1);
+            }
+        }
+    }
+
+    private static void faultDoesNotCount() {
+        for (int op = Lab.LOAD; op <= Lab.STORE_BYTE; op++) {
+            Lab lab = faultAt(4, op);
+            Check.same("only the one before it", lab.warden.count(2), 1);
+            lab.warden.start(5);
+            Check.refuses("again", IndexOutOfBoundsException.class, () -> lab.warden.run(1));
+            Check.same("still", lab.warden.count(2), 1);
         }
     }
 
@@ -55,13 +68,20 @@ final class Promise12OrderTest {
         Lab lab = new Lab();
         lab.set(1, 1).set(2, 2).halt();
         lab.go(0);
-        Check.same("one there", lab.warden.count(9), 1);
-        lab.at(1).set(2, 2);
-        Check.same("thrown away", lab.warden.count(9), 0);
-        Check.same("translated counts on", lab.warden.count(8), 1);
-        lab.go(0);
-        Check.same("translated anew", lab.warden.count(8), 2);
+        lab.go(1);
+        Check.same("two there", lab.warden.count(9), 2);
         lab.at(3).halt();
-        Check.same("not in the piece", lab.warden.count(9), 1);
+        Check.same("no piece has 3", lab.warden.count(9), 2);
+        lab.at(0).set(1, 1);
+        Check.same("one had 0", lab.warden.count(9), 1);
+        lab.go(0);
+        Check.same("translated anew", lab.warden.count(8), 3);
+        lab.at(2).halt();
+        Check.same("both had 2", lab.warden.count(9), 0);
+        Check.same("translated stays", lab.warden.count(8), 3);
+        Lab untouched = new Lab();
+        untouched.go(9);
+        untouched.warden.code(9, 0, 0, 0, 0, 0);
+        Check.same("what it was at first", untouched.warden.count(9), 0);
     }
 }
