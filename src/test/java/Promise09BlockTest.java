@@ -18,6 +18,7 @@ final class Promise09BlockTest {
                 .holds("0 RESTING (3).", Promise09BlockTest::restingHasNoVerdict)
                 .holds("None or gone: NoSuchElementException.", Promise09BlockTest::neverThere)
                 .holds("or gone: NoSuchElementException.", Promise09BlockTest::gone)
+                .holds("or gone: NoSuchElementException.", Promise09BlockTest::othersStayWhenOneIsGone)
                 .holds("throws IllegalArgumentException, java.util.NoSuchElementException`:",
                         Promise09BlockTest::otherWhatsAreRefused);
     }
@@ -129,6 +130,18 @@ final class Promise09BlockTest {
         lab.askFor(4);
         refused("its place is taken again", lab, 1);
         Check.same("by number 6", lab.warden.block(6, 0), 68);
+    }
+
+    private static void othersStayWhenOneIsGone() {
+        Lab lab = new Lab().withBlocks(4, 8, 1, 12, 7);
+        lab.giveBack(80).giveBack(68).giveBack(108).giveBack(128);
+        refused("the second", lab, 2);
+        int[][] due = {{1, 68, 4, 2}, {3, 96, 1, 1}, {4, 108, 12, 2}, {5, 128, 7, 2}};
+        for (int[] row : due) {
+            for (int what = 0; what <= 2; what++) {
+                Check.same("block(" + row[0] + ", " + what + ")", lab.warden.block(row[0], what), row[what + 1]);
+            }
+        }
     }
 
     private static void otherWhatsAreRefused() {

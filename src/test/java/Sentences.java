@@ -31,9 +31,19 @@ final class Sentences {
         for (Test test : tests) {
             Check.under(test.name());
             int before = Check.made();
-            test.deed().run();
-            Check.same("looks at something", Check.made() > before ? 1 : 0, 1);
+            Check.same("goes to its end", endOf(test), "");
+            Check.same("looks at something", Check.made() > before + 1 ? 1 : 0, 1);
         }
         Check.finish();
+    }
+
+    /** A call that throws where none may would else end all tests, without a word about the sentence. */
+    private static String endOf(Test test) {
+        try {
+            test.deed().run();
+            return "";
+        } catch (RuntimeException | AssertionError e) {
+            return e + " at " + e.getStackTrace()[0];
+        }
     }
 }

@@ -135,6 +135,9 @@ final class TermsBlocksTest {
         Check.same("behind three that rest", lab.askFor(4), 104);
         lab.giveBack(104);
         Check.same("the first is gone", lab.askFor(4), 68);
+        Lab last = with(4, 4, 4, 4);
+        last.giveBack(104).giveBack(68).giveBack(80).giveBack(92);
+        Check.same("the last is gone", last.askFor(4), 104);
     }
 
     private static void noPlaceAnswers0() {

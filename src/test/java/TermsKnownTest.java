@@ -86,6 +86,19 @@ final class TermsKnownTest {
             }
         }
         known(Lab.AND, 0, 0, 0, 0, 0);
+        for (int zeros = 0; zeros < 16; zeros++) {
+            known(Lab.AND, bytes(zeros, 0, 0x01), 15, -1, 0, zeros);
+            known(Lab.AND, -1, 0, bytes(zeros, 0, 0x80), 15, zeros);
+        }
+    }
+
+    /** A word with this byte where the bits say so, and with the other byte elsewhere. */
+    private static int bytes(int bits, int there, int elsewhere) {
+        int word = 0;
+        for (int i = 0; i < 4; i++) {
+            word |= (((bits >> i) & 1) == 1 ? there : elsewhere) << (8 * i);
+        }
+        return word;
     }
 
     private static void orIsDecidedBy255() {
@@ -97,6 +110,10 @@ final class TermsKnownTest {
             }
         }
         known(Lab.OR, -1, 0, -1, 0, 0);
+        for (int ones = 0; ones < 16; ones++) {
+            known(Lab.OR, bytes(ones, 255, 0xFE), 15, 0, 0, ones);
+            known(Lab.OR, 0, 0, bytes(ones, 255, 0x7F), 15, ones);
+        }
     }
 
     private static void loadedAsInMemory() {
